@@ -35,7 +35,7 @@ public final class FaceFlips {
     private final Past past = new Past();
     private final Shelf shelf = new Shelf();
     private final Heap oldHeap = new Heap();
-    private final Shelf oldShelf = new Shelf();
+    private int oldUsed;
     private boolean imaged;
     private final Ways ways = new Ways();
     private final Search search = new Search();
@@ -398,7 +398,8 @@ public final class FaceFlips {
 
     public int image() {
         oldHeap.copyOf(now);
-        oldShelf.copyOf(shelf);
+        // A KEPT heap stays as it is, and others come behind it: how many there were tells which to leave.
+        oldUsed = shelf.used;
         imaged = true;
         return now.total();
     }
@@ -408,7 +409,7 @@ public final class FaceFlips {
             return STATE;
         }
         now.copyOf(oldHeap);
-        shelf.copyOf(oldShelf);
+        shelf.used = oldUsed;
         past.forget();
         return now.total();
     }
@@ -878,13 +879,6 @@ public final class FaceFlips {
         /** Null: no heap is kept under this number. */
         Heap at(int i) {
             return i >= 0 && i < used ? heaps[i] : null;
-        }
-
-        void copyOf(Shelf shelf) {
-            used = shelf.used;
-            for (int i = 0; i < used; i++) {
-                heaps[i].copyOf(shelf.heaps[i]);
-            }
         }
     }
 

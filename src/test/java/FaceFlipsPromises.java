@@ -321,6 +321,12 @@ public final class FaceFlipsPromises {
     due("apart(0, 0) of none", of(3).apart(0, 0), NONE);
     x = of(4, 15, 51, 60);
     due("apart(0, 1) at an edge", x.apart(0, 1), NOT);
+    x = of(4);
+    for (int s = 0; s < 256; s++) if (Integer.bitCount(s) == 4) x.body(s);
+    due("apart(0, 69) of all", x.apart(0, 69), 4);
+    due("apart(69, 69) of all", x.apart(69, 69), 0);
+    due("apart(69, 68) of all", x.apart(69, 68), 1);
+    due("apart(70, 0) of all", x.apart(70, 0), NONE);
   }
 
   private static void shells(FaceFlips x, int want, int... told) {
@@ -435,6 +441,12 @@ public final class FaceFlipsPromises {
     isFlip(x, 4, 30, 32, 1);
     x = of(4, 27, 23, 15);
     isFlip(x, 0, 3, 28, 3);
+    x = of(3, 7, 11, 13);
+    isFlip(x, 0, 1, 14, 3);
+    due("number(1)", x.number(1), 0);
+    due("number(7)", x.number(7), 1);
+    due("other(1)", x.other(1), 0);
+    due("fewer(1)", x.fewer(1), 1);
     due("flipOf(0, 0) of none", of(3).flipOf(0, 0), NONE);
   }
 
@@ -700,6 +712,28 @@ public final class FaceFlipsPromises {
     due("chain(0, 3, -2) of unlike K", x.chain(0, 3, -2), NONE);
     chainOfTwo();
     chainOfFour();
+    chainTooLong();
+  }
+
+  private static void chainTooLong() {
+    // From 9 triangles to 1: four points are to go, one by each flip.
+    FaceFlips x = made(3, 1);
+    x.keep();
+    for (int i = 0; i < 4; i++) x.flip(x.flips(0) - 1);
+    due("bodies", x.heap(1), 9);
+    due("chain(0, 1, -1) of four", x.chain(0, 1, -1), NOT);
+    due("chain(0, 2, -1) of four", x.chain(0, 2, -1), NOT);
+    due("chain(0, 1, 0) of four", x.chain(0, 1, 0), NOT);
+    x.keep();
+    x.make(1);
+    due("chain(1, 1, -1) of four", x.chain(1, 1, -1), NOT);
+    // A flip of the first set there is.
+    x = of(3, 14);
+    x.keep();
+    x.flip(0);
+    hasBodies("point 0 put in", x, 7, 11, 13);
+    isFlip(x, 0, 1, 14, 3);
+    chains(x, 0, 1, 0);
   }
 
   private static void chainOfTwo() {
@@ -830,6 +864,8 @@ public final class FaceFlipsPromises {
     for (int what : new int[] {-1, 3, LOW, BIG}) due("walk(20, 0, " + what + ")", x.walk(20, 0, what), NONE);
     hasBodies("in thought", x, 7, 11, 13, 14);
     due("walk(20, 1, 0) of none", of(3).walk(20, 1, 0), 0);
+    due("walk(1, 5, 0) of one flip", made(3, 1).walk(1, 5, 0), 3);
+    due("walk(2, 5, 0) of a ball of 4", made(4, 1).walk(1, 5, 0), 4);
     // One draw below 3: of z 0: 12345 over 65536 is 0. Of z 1: 1103527590 over 65536 is 16838, modulo 3 is 2.
     x = of(3, 7, 14);
     due("walk(1, 0, 0)", x.walk(1, 0, 0), 2);
@@ -838,7 +874,7 @@ public final class FaceFlipsPromises {
     // 2147483648 is 1043980748 over 65536 is 15929: 2. Of z 3: 3310570425 is 1163086777: 17747: 2. Of z 6: 16809: 0.
     due("walk(1, 2, 0)", x.walk(1, 2, 0), 4);
     due("walk(1, -1, 0)", x.walk(1, -1, 0), 4);
-    for (int z = -50; z < 50; z++) {
+    for (int z = -2000000000; z < 1950000000; z += 49999999) {
       long then = (z * 1103515245L + 12345L) & 0x7fffffffL;
       due("walk(1, " + z + ", 0)", x.walk(1, z, 0), then / 65536 % 3 == 0 ? 2 : 4);
     }
@@ -894,6 +930,21 @@ public final class FaceFlipsPromises {
     words(x, "four body0123 body76543210", 2, 1);
     words(x, "row row row row row row row row row row row row", 12, 5);
     words(x, "three ball body01234567 keep flip5 flip0", 3, 3);
+    FaceFlips y = made(4, 5);
+    for (int i = 10; i < 32; i++) {
+      y.make(5);
+      y.flip(i);
+      say(x, "four cross flip" + i);
+      for (int n = 0; n < 17; n++) due("body " + n + " behind flip" + i, x.bodyOf(n), y.bodyOf(n));
+    }
+    say(x, "three");
+    // A full text: nine that are refused, of 13 signs with their blanks, and one that is not.
+    String nine = "";
+    for (int i = 0; i < 9; i++) nine += "body01234567 ";
+    words(x, nine + "row", 1, 6);
+    words(x, nine + "ro" + "1", -100 - 117, 6);
+    words(x, "a".repeat(120), -100, 6);
+    words(x, "ba", -100, 6);
     // A flip is by its number as FLIPS are then.
     words(x, "four ball flip0 flip0 flip0", 5, 4);
   }
@@ -906,6 +957,15 @@ public final class FaceFlipsPromises {
   }
 
   private static void faults() {
+    String[] names = {"nothing", "ball", "sphere", "row", "round", "cross", "three", "four", "keep"};
+    for (String name : names) {
+      fault("ball " + name + "0", 5);
+      fault("ball " + name.substring(1), 5);
+      fault("ball " + name.substring(0, name.length() - 1), 5);
+      fault("ball " + name.substring(0, name.length() - 1) + "z", 5);
+      fault("ball z" + name.substring(1), 5);
+      fault("ball " + name + "_", 5 + name.length());
+    }
     fault("", 0);
     fault(" ball", 0);
     fault("7", 0);
@@ -1021,6 +1081,7 @@ public final class FaceFlipsPromises {
     for (int n : new int[] {41, BIG}) due("list(3, " + n + ")", x.list(3, n), BAD);
     for (int n : new int[] {-1, LOW}) due("list(3, " + n + ")", x.list(3, n), SIZE);
     due("get(3, 39)", x.get(3, 39), 5);
+    for (int i = 0; i < 40; i++) x.put(3, i, 9);
     due("list(3, 40)", x.list(3, 40), 1);
     for (int i = 0; i < 40; i++) due("get(3, " + i + ")", x.get(3, i), 0);
     due("list(3, 0)", x.list(3, 0), 1);
