@@ -75,6 +75,7 @@ public final class FaceFlipsAgainstModel {
     while (calls < 512 && wrong < 20) {
       int t = r.nextInt(100);
       if (t < 22) flip();
+      else if (t < 23) somewhere(wild);
       else if (t < 30) change(wild);
       else if (t < 36) keptHeaps();
       else if (t < 40) lists();
@@ -95,11 +96,39 @@ public final class FaceFlipsAgainstModel {
     due("flip(" + i + ")", x.flip(i), m.flip(i));
   }
 
+  /** A heap that is empty becomes one that isn't; a wild run goes on from bodies drawn freely. */
+  private void somewhere(int wild) {
+    if (m.h.bodies.cardinality() > 0 && wild < 4) return;
+    if (wild < 3 || calls > 440) {
+      int kind = 1 + r.nextInt(5);
+      due("make(" + kind + ")", x.make(kind), m.make(kind));
+      return;
+    }
+    for (int n = r.nextInt(50); n > 0; n--) {
+      int s = pointsOf(m.h.k);
+      due("body(" + s + ")", x.body(s), m.body(s));
+    }
+  }
+
+  /** From a kept heap some flips on, and the chain back. */
+  private void astray() {
+    if (m.kept.isEmpty()) return;
+    int kept = r.nextInt(m.kept.size());
+    due("take(" + kept + ")", x.take(kept), m.take(kept));
+    for (int n = r.nextInt(5); n > 0; n--) flip();
+    for (int least = 1; least < 3; least++) {
+      for (int i = -1; i < 4; i++) {
+        due("chain(" + kept + ", " + least + ", " + i + ")", x.chain(kept, least, i), m.chain(kept, least, i));
+      }
+    }
+  }
+
   private void change(int wild) {
     int t = r.nextInt(24);
     if (t == 0) {
       int k = r.nextInt(3) == 0 ? num(6) : 3 + r.nextInt(2);
       due("bodies(" + k + ")", x.bodies(k), m.bodies(k));
+      if (r.nextInt(4) > 0) due("make(" + k + ")", x.make(k), m.make(k));
     } else if (t < 4) {
       int kind = num(6);
       due("make(" + kind + ")", x.make(kind), m.make(kind));
@@ -124,8 +153,9 @@ public final class FaceFlipsAgainstModel {
     int one = num(m.kept.size());
     int other = num(m.kept.size());
     int what = num(4);
-    switch (r.nextInt(9)) {
-      case 0: due("keep()", x.keep(), m.keep()); break;
+    switch (r.nextInt(10)) {
+      case 0: if (m.h.bodies.isEmpty() && r.nextInt(4) > 0) break; due("keep()", x.keep(), m.keep()); break;
+      case 9: astray(); break;
       case 1: due("take(" + one + ")", x.take(one), m.take(one)); break;
       case 2: due("kept(" + one + ", " + what + ")", x.kept(one, what), m.kept(one, what)); break;
       case 3: due("alike(" + one + ", " + other + ")", x.alike(one, other), m.alike(one, other)); break;
