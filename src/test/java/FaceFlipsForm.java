@@ -1,3 +1,4 @@
+import java.io.DataInputStream;
 import java.lang.management.ManagementFactory;
 import java.lang.reflect.Constructor;
 import java.lang.reflect.Field;
@@ -30,6 +31,7 @@ public final class FaceFlipsForm {
     classes();
     words(source);
     lengths(source);
+    calledOutside();
     room();
     System.out.println(wrong == 0 ? "the form is as due" : wrong + " faults of form");
     if (wrong != 0) System.exit(1);
@@ -123,6 +125,52 @@ public final class FaceFlipsForm {
       right(lines[i].trim() + " has " + (end - i + 1) + " lines", end - i < 60);
       right("a line of over 120 signs: " + lines[i], lines[i].length() <= 120);
     }
+  }
+
+  /** Rules 3, 4, 10: what the compiled classes name beside their own. */
+  private static void calledOutside() throws Exception {
+    Set<String> known = Set.of("java/lang/Object.<init>", "java/lang/System.arraycopy", "java/lang/Math.min",
+        "java/lang/Integer.bitCount", "java/lang/String.length", "java/lang/String.charAt");
+    List<Class<?>> all = new ArrayList<>(List.of(FaceFlips.class.getDeclaredClasses()));
+    all.add(FaceFlips.class);
+    for (Class<?> c : all) {
+      try (DataInputStream in = new DataInputStream(FaceFlips.class.getResourceAsStream(c.getName() + ".class"))) {
+        for (String name : named(in)) right(c + " names " + name, name.startsWith("FaceFlips") || known.contains(name));
+      }
+    }
+  }
+
+  /** The methods and fields in a class's table of names, each with its class; "a dynamic call", where there is one. */
+  private static List<String> named(DataInputStream in) throws Exception {
+    in.readInt();
+    in.readInt();
+    int many = in.readUnsignedShort();
+    Object[] entries = new Object[many];
+    for (int i = 1; i < many; i++) {
+      int tag = in.readUnsignedByte();
+      switch (tag) {
+        case 1 -> entries[i] = in.readUTF();
+        case 7, 8, 16, 19, 20 -> entries[i] = new int[] {tag, in.readUnsignedShort()};
+        case 9, 10, 11, 12, 17, 18 -> entries[i] = new int[] {tag, in.readUnsignedShort(), in.readUnsignedShort()};
+        case 15 -> entries[i] = new int[] {tag, in.readUnsignedByte(), in.readUnsignedShort()};
+        case 3, 4 -> in.readInt();
+        case 5, 6 -> {
+          in.readLong();
+          i++;
+        }
+        default -> throw new IllegalStateException("tag " + tag);
+      }
+    }
+    List<String> names = new ArrayList<>();
+    for (Object o : entries) {
+      if (!(o instanceof int[] e)) continue;
+      if (e[0] >= 15 && e[0] <= 18) names.add("a dynamic call");
+      if (e[0] < 9 || e[0] > 11) continue;
+      int[] owner = (int[]) entries[e[1]];
+      int[] name = (int[]) entries[e[2]];
+      names.add(entries[owner[1]] + "." + entries[name[1]]);
+    }
+    return names;
   }
 
   /** The room: calls make no objects; an object's own are few. */
