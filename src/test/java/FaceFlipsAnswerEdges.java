@@ -103,7 +103,7 @@ final class FaceFlipsAnswerEdges extends FaceFlipsDue {
 
   private static void heapOf(StringBuilder b, FaceFlips x) {
     b.append(x.heap(0)).append(':');
-    for (int i = 0; x.bodyOf(i) != NOT; i++) b.append(x.bodyOf(i)).append(' ');
+    for (int i = 0; i < 71 && x.bodyOf(i) != NOT; i++) b.append(x.bodyOf(i)).append(' ');
     b.append('|');
   }
 
