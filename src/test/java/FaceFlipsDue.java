@@ -21,9 +21,10 @@ class FaceFlipsDue {
 
   // ---- the document
 
-  /** Cuts the document into what its tests go by: the three terms, the rows behind them, each promise. */
+  /** Cuts the document into what its tests go by: its opening, the three terms, the rows behind them, each promise. */
   static void load(String document) {
     String text = document.replace("```text", " ").replace("```", " ").replaceAll("\\s+", " ");
+    cut(text, "what", "## What it is ", "An object is used for");
     cut(text, "use", "An object is used for", "## The public face");
     cut(text, "1", "==== 1 ", "==== 2 ");
     cut(text, "2", "==== 2 ", "==== 3 ");
@@ -33,7 +34,7 @@ class FaceFlipsDue {
     cut(text, "constants", "The constants: ", "## Promise 1:");
     Matcher promise = Pattern.compile("## Promise (\\d+): .*?`.*?`: (.*?) (?=## )").matcher(text);
     while (promise.find()) section("promise " + promise.group(1), promise.group(2));
-    if (SECTIONS.size() != 7 + 39) fault("the document has " + SECTIONS.size() + " sections");
+    if (SECTIONS.size() != 8 + 39) fault("the document has " + SECTIONS.size() + " sections");
   }
 
   private static void cut(String text, String name, String from, String to) {

@@ -5,6 +5,7 @@ import java.nio.file.Path;
 public final class FaceFlipsEdges extends FaceFlipsDue {
   public static void main(String[] args) throws Exception {
     load(Files.readString(Path.of(args[0])));
+    FaceFlipsOpeningEdges.run();
     FaceFlipsHeapEdges.run();
     FaceFlipsFlipEdges.run();
     FaceFlipsTextEdges.run();

@@ -27,7 +27,9 @@ public final class FaceFlipsForm {
 
   public static void main(String[] args) throws Exception {
     String source = Files.readString(Path.of(args[0]));
-    face(Files.readString(Path.of(args[1])));
+    String document = Files.readString(Path.of(args[1]));
+    face(document);
+    lines(source, document);
     classes();
     words(source);
     lengths(source);
@@ -66,6 +68,18 @@ public final class FaceFlipsForm {
         && Modifier.isPublic(made[0].getModifiers()));
     int modifiers = FaceFlips.class.getModifiers();
     right("public and final", Modifier.isPublic(modifiers) && Modifier.isFinal(modifiers));
+  }
+
+  /** Each line of the document's face stands in the program, with its names of arguments and values of constants. */
+  private static void lines(String source, String document) {
+    Matcher line = Pattern.compile("\n    (public static final .*;|public .*(?=\\);))").matcher(document);
+    int many = 0;
+    while (line.find()) {
+      String due = line.group(1).endsWith(";") ? line.group(1) : line.group(1) + ") {";
+      many += source.contains("\n    " + due) ? 1 : 0;
+      right("no line " + due, source.contains("\n    " + due));
+    }
+    right("the document's face has " + many + " lines", many == 2 + 1 + 38);
   }
 
   /** Rules 1, 5, 11: names of methods, static fields, how many classes and fields. */
